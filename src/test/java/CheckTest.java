@@ -16,8 +16,11 @@ public final class CheckTest {
         sidesMustFit();
         guardsAreSides();
         onlyTheFirstGuardIsASide();
+        threeGuards();
         typesAtTheStart();
         joins();
+        joinsOfTheLastClass();
+        sidesOfAHandler();
         leastTypesInLoops();
         unsetOnTheStack();
         typesOfWhatIsPut();
@@ -263,6 +266,18 @@ public final class CheckTest {
         DUE.is("first guard: that of the second is not", x.typeAt(0, 3, 4), NONE);
     }
 
+    private static void threeGuards() {
+        ClosedWorld x = DUE.world("PUSH 1; RETURN; RETURN; RETURN; RETURN; PUSH 1; RETURN");
+        x.guard(0, 5, 6, 2);
+        x.guard(0, 0, 1, 3);
+        x.guard(0, 1, 2, 4);
+        DUE.is("three guards: close", x.close(), NONE);
+        DUE.is("three guards: the first is over nothing", x.typeAt(0, 2, 4), NONE);
+        DUE.is("three guards: the second", x.typeAt(0, 3, 4), NUMBER);
+        DUE.is("three guards: the third", x.typeAt(0, 4, 4), NUMBER);
+        DUE.is("three guards: run", x.run(0, 10), 0);
+    }
+
     private static void typesAtTheStart() {
         ClosedWorld x = family();
         x.method(1, 0, 9);
@@ -304,6 +319,54 @@ public final class CheckTest {
         DUE.is("join: close", x.close(), NONE);
         DUE.is("join: a number and a class", x.typeAt(0, 7, 0), UNSET);
         DUE.is("join: unset and unset", x.typeAt(0, 7, 1), UNSET);
+    }
+
+    private static void joinsOfTheLastClass() {
+        ClosedWorld x = new ClosedWorld();
+        for (int type = 0; type < 6; type++) {
+            x.type(NONE, 0);
+        }
+        x.method(0, NONE, 1);
+        DUE.write(x, 0, "LOAD 0; LE 4; NEW 5; JUMP 5; NULL 5; STORE 0; PUSH 1; RETURN");
+        DUE.is("last class: close", x.close(), NONE);
+        DUE.is("last class: 5 and 5", x.typeAt(0, 6, 0), 5);
+        ClosedWorld deep = new ClosedWorld();
+        for (int type = 0; type < 6; type++) {
+            deep.type(type - 1, 0);
+        }
+        deep.method(0, NONE, 1);
+        DUE.write(deep, 0, "NEW 5; STORE 0; PUSH 1; LE 2; LOAD 0; CAST 4; STORE 0; JUMP 2");
+        DUE.is("deep class: close", deep.close(), NONE);
+        DUE.is("deep class: 5 and 4", deep.typeAt(0, 2, 0), 4);
+        DUE.is("deep class: in front", deep.typeAt(0, 1, 4), 5);
+    }
+
+    /** A handler is reached with the locals of each instruction in the range, not with those of another path. */
+    private static void sidesOfAHandler() {
+        ClosedWorld x = family();
+        DUE.write(x, 0, "LOAD 0; LE 7; NEW 3; STORE 0; STATIC 0; RETURN; RETURN; NEW 2; STORE 0; STATIC 1; RETURN; "
+                + "STORE 1; PUSH 1; RETURN");
+        x.guard(0, 4, 5, 6);
+        x.guard(0, 9, 10, 11);
+        DUE.is("handler: close", x.close(), NONE);
+        DUE.is("handler: of the one path", x.typeAt(0, 6, 0), 3);
+        DUE.is("handler: of the other", x.typeAt(0, 11, 0), 2);
+        DUE.is("handler: its number", x.typeAt(0, 12, 1), NUMBER);
+
+        ClosedWorld jumped = family();
+        DUE.write(jumped, 0, "LOAD 0; LE 6; NEW 3; STORE 0; PUSH 1; RETURN; PUSH 1; RETURN; RETURN");
+        jumped.guard(0, 6, 7, 8);
+        DUE.is("jumped to: close", jumped.close(), NONE);
+        DUE.is("jumped to: local 0 behind it", jumped.typeAt(0, 7, 0), NUMBER);
+        DUE.is("jumped to: local 0 at its handler", jumped.typeAt(0, 8, 0), NUMBER);
+        DUE.is("jumped to: local 0 of the other path", jumped.typeAt(0, 5, 0), 3);
+
+        ClosedWorld back = family();
+        DUE.write(back, 0, "LOAD 0; LE 3; JUMP 6; NEW 3; STORE 0; JUMP 6; PUSH 1; RETURN; LOAD 0; POP; RETURN");
+        DUE.is("sides: close", back.close(), NONE);
+        DUE.is("sides: local 0 of both", back.typeAt(0, 6, 0), UNSET);
+        DUE.is("sides: local 0 of one", back.typeAt(0, 2, 0), NUMBER);
+        DUE.is("sides: local 0 of the other", back.typeAt(0, 5, 0), 3);
     }
 
     private static void leastTypesInLoops() {

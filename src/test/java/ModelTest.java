@@ -1,6 +1,8 @@
 import java.util.ArrayList;
 import java.util.List;
+import java.util.Map;
 import java.util.Random;
+import java.util.TreeMap;
 
 /** Asks the program and the model the same calls, of programs and of calls made by chance. */
 public final class ModelTest {
@@ -10,7 +12,7 @@ public final class ModelTest {
 
     private final Due due = new Due();
     private final int[] ends = new int[4];
-    private final java.util.TreeMap<Integer, Integer> thrown = new java.util.TreeMap<>();
+    private final Map<Integer, Integer> thrown = new TreeMap<>();
     private int closed;
 
     public static void main(String[] args) {

@@ -10,6 +10,10 @@ public final class ReachTest {
         sends();
         sendsGrow();
         unreachedCode();
+        callsBackwards();
+        madeBackwards();
+        whatIsNotLiveMakesNothing();
+        closedAnew();
         wrongInputs();
         DUE.end();
     }
@@ -145,6 +149,88 @@ public final class ReachTest {
         DUE.is("unreached: targets", x.targets(0, 3), NONE);
         DUE.is("unreached: targets behind", x.targets(0, 10), NONE);
         DUE.is("unreached: what is reached", x.targets(0, 6), 1);
+    }
+
+    /** Each method is called by one of a higher number, so that one round after the other finds it. */
+    private static void callsBackwards() {
+        ClosedWorld x = new ClosedWorld();
+        x.type(NONE, 0);
+        x.method(0, NONE, 1);
+        for (int method = 1; method < 10; method++) {
+            x.method(0, NONE, 0);
+        }
+        DUE.write(x, 0, "CALL 9; RETURN");
+        DUE.write(x, 1, "PUSH 1; RETURN");
+        DUE.write(x, 2, "PUSH 1; RETURN");
+        for (int method = 3; method < 10; method++) {
+            DUE.write(x, method, "CALL " + (method - 1) + "; RETURN");
+        }
+        DUE.is("backwards: close", x.close(), NONE);
+        lives(x, "backwards", 1, 0, 1, 1, 1, 1, 1, 1, 1, 1);
+    }
+
+    /** A class that is made late, by a method that is live already, makes a further target live. */
+    private static void madeBackwards() {
+        ClosedWorld x = new ClosedWorld();
+        x.type(NONE, 0);
+        x.type(0, 0);
+        x.type(0, 0);
+        x.type(0, 0);
+        x.method(0, NONE, 1);
+        x.method(3, 0, 0);
+        x.method(2, 0, 0);
+        x.method(1, 0, 0);
+        x.method(0, 0, 0);
+        x.method(0, NONE, 0);
+        DUE.write(x, 0, "NULL 0; PUSH 1; SEND 0; CALL 5; ADD; RETURN");
+        DUE.write(x, 1, "PUSH 1; RETURN");
+        DUE.write(x, 2, "NEW 3; POP; PUSH 1; RETURN");
+        DUE.write(x, 3, "NEW 2; POP; PUSH 1; RETURN");
+        DUE.write(x, 4, "NEW 1; POP; PUSH 1; RETURN");
+        DUE.write(x, 5, "NEW 0; POP; PUSH 1; RETURN");
+        DUE.is("made backwards: close", x.close(), NONE);
+        lives(x, "made backwards", 1, 1, 1, 1, 1, 1);
+        DUE.is("made backwards: targets", x.targets(0, 2), 4);
+    }
+
+    private static void whatIsNotLiveMakesNothing() {
+        ClosedWorld x = new ClosedWorld();
+        x.type(NONE, 0);
+        x.type(0, 0);
+        x.method(0, NONE, 1);
+        x.method(0, 0, 0);
+        x.method(0, NONE, 0);
+        x.method(0, NONE, 0);
+        DUE.write(x, 0, "NULL 0; PUSH 1; SEND 0; RETURN");
+        DUE.write(x, 1, "PUSH 1; RETURN");
+        DUE.write(x, 2, "NEW 1; POP; CALL 3; RETURN");
+        DUE.write(x, 3, "PUSH 1; RETURN");
+        DUE.is("not live: close", x.close(), NONE);
+        lives(x, "not live", 1, 0, 0, 0);
+        DUE.is("not live: targets", x.targets(0, 2), 0);
+    }
+
+    /** What was live in a program that was closed before does not stay so. */
+    private static void closedAnew() {
+        ClosedWorld x = new ClosedWorld();
+        x.type(NONE, 0);
+        x.method(0, NONE, 1);
+        x.method(0, NONE, 0);
+        x.method(0, NONE, 0);
+        x.method(0, 0, 0);
+        DUE.write(x, 0, "NULL 0; PUSH 1; SEND 0; RETURN");
+        DUE.write(x, 1, "NEW 0; POP; PUSH 1; RETURN");
+        DUE.write(x, 2, "PUSH 1; RETURN");
+        DUE.write(x, 3, "PUSH 1; RETURN");
+        x.initialiser(0, 1);
+        DUE.is("anew: close", x.close(), NONE);
+        lives(x, "anew: first", 1, 1, 0, 1);
+        DUE.is("anew: targets", x.targets(0, 2), 1);
+        x.initialiser(0, 2);
+        DUE.is("anew: open", x.live(0), false);
+        DUE.is("anew: close again", x.close(), NONE);
+        lives(x, "anew: second", 1, 0, 1, 0);
+        DUE.is("anew: targets now", x.targets(0, 2), 0);
     }
 
     private static void wrongInputs() {

@@ -9,6 +9,7 @@ public final class RunTest {
         jumps();
         localsAndStack();
         objectsAndFields();
+        objectsAreNew();
         casts();
         arguments();
         receivers();
@@ -31,9 +32,11 @@ public final class RunTest {
         deepAfterTriggering();
         nullBeforeDeep();
         startIsNotRunningWhenTriggered();
+        leftOnTheStack();
         fuel();
         fuelInInitialisers();
         eachRunIsNew();
+        manyRunsCutShort();
         DUE.end();
     }
 
@@ -107,6 +110,8 @@ public final class RunTest {
         answers("PUSH 1; LOAD 0; POP; RETURN", 9, 1);
         answers("PUSH 1; PUSH 2; PUSH 3; PUSH 4; PUSH 5; PUSH 6; SUB; SUB; SUB; SUB; SUB; RETURN", 0, -3);
         answers("PUSH 1; PUSH 2; RETURN", 0, 2);
+        answers("PUSH 7; NULL 0; POP; RETURN", 0, 7);
+        answers("PUSH 7; NEW 0; POP; RETURN", 0, 7);
     }
 
     private static void objectsAndFields() {
@@ -126,6 +131,21 @@ public final class RunTest {
         DUE.write(same, 0, "NEW 0; STORE 1; LOAD 1; STORE 2; LOAD 1; LOAD 0; PUT 0; LOAD 2; GET 0; RETURN");
         closes(same, "one object in two locals");
         runs(same, "one object in two locals", 5, 0, 5);
+    }
+
+    /** Each field of each object is a place of its own, and 0 at first, whatever an earlier run left there. */
+    private static void objectsAreNew() {
+        ClosedWorld x = new ClosedWorld();
+        x.type(NONE, 6);
+        x.method(0, NONE, 1);
+        x.method(0, 0, 0);
+        DUE.write(x, 0, "NEW 0; STORE 1; NEW 0; STORE 2; LOAD 1; LOAD 0; SEND 0; LOAD 2; LOAD 0; SEND 0; ADD; "
+                + "LOAD 1; LOAD 0; SEND 0; ADD; RETURN");
+        DUE.write(x, 1, "LOAD 0; GET 0; LOAD 0; GET 1; ADD; LOAD 0; GET 5; ADD; LOAD 0; LOAD 1; PUT 0; "
+                + "LOAD 0; LOAD 1; PUT 1; LOAD 0; LOAD 1; PUT 5; RETURN");
+        closes(x, "objects are new");
+        runs(x, "objects are new", 7, 0, 21);
+        runs(x, "objects are new in each run", 9, 0, 27);
     }
 
     private static void casts() {
@@ -500,6 +520,19 @@ public final class RunTest {
         }
     }
 
+    /** What a method leaves on its stack is gone when the next one begins. */
+    private static void leftOnTheStack() {
+        ClosedWorld x = new ClosedWorld();
+        x.type(NONE, 0);
+        x.method(0, NONE, 1);
+        x.method(0, NONE, 0);
+        DUE.write(x, 0, "CALL 1; CALL 1; ADD; CALL 1; ADD; RETURN");
+        DUE.write(x, 1, "PUSH 1; PUSH 2; PUSH 3; PUSH 4; PUSH 5; RETURN");
+        closes(x, "left");
+        runs(x, "left on the stack", 0, 0, 15);
+        runs(x, "left on the stack, again", 0, 0, 15);
+    }
+
     private static void fuel() {
         ClosedWorld x = DUE.world("PUSH 5; PRINT; PUSH 7; RETURN");
         closes(x, "fuel");
@@ -540,6 +573,19 @@ public final class RunTest {
         begins(x, "fuel for all of it", 0, 1);
         DUE.is("fuel for both: run", x.run(0, 6), 0);
         DUE.is("fuel for both: steps", x.steps(), 6);
+    }
+
+    /** Runs that end while the class of method 0 is triggered leave nothing to the next one. */
+    private static void manyRunsCutShort() {
+        ClosedWorld x = DUE.world("LOAD 0; RETURN");
+        x.method(0, NONE, 0);
+        DUE.write(x, 1, "PUSH 0; RETURN");
+        x.initialiser(0, 1);
+        closes(x, "cut short");
+        for (int k = 0; k < 9; k++) {
+            DUE.is("cut short: run " + k, x.run(k, 1), 2);
+        }
+        runs(x, "cut short: the next", 50, 0, 50);
     }
 
     private static void eachRunIsNew() {
