@@ -4,14 +4,31 @@ final class Due {
         "PUSH", "NULL", "LOAD", "STORE", "POP", "ADD", "SUB", "MUL", "DIV", "JUMP", "LE", "NEW",
         "GET", "PUT", "STATIC", "SET", "CALL", "SEND", "CAST", "ISA", "PRINT", "THROW", "RETURN"};
 
+    private final Document document;
+    private String sentence = "";
     private int asked;
     private int wrong;
+
+    Due() {
+        this(null);
+    }
+
+    /** For tests that quote the sentences of the document. */
+    Due(Document document) {
+        this.document = document;
+    }
+
+    /** What is asked next is what these words of the document say. */
+    void says(String words) {
+        sentence = "'" + words + "': ";
+        is("stands in the document", document.quote(words), true);
+    }
 
     void is(String what, long got, long want) {
         asked++;
         if (got != want) {
             wrong++;
-            System.out.println(what + " answered " + got + ", due is " + want);
+            System.out.println(sentence + what + " answered " + got + ", due is " + want);
         }
     }
 
@@ -33,6 +50,12 @@ final class Due {
             int a = words.length > 1 ? Integer.parseInt(words[1]) : 0;
             is("is taken: " + line, x.code(method, op(words[0]), a) != ClosedWorld.NONE, true);
         }
+    }
+
+    /** Runs a closed program with the most fuel. */
+    void runs(ClosedWorld x, int argument, int end, int result) {
+        is("run with " + argument, x.run(argument, 2000), end);
+        is("result with " + argument, x.result(), result);
     }
 
     static int op(String name) {
