@@ -96,12 +96,12 @@ final class ClassSentences {
     private void statics() {
         due.says("Each class has one STATIC number, and may have an INITIALISER.");
         ClosedWorld x = new Maker(due).types(NONE, 0, NONE)
-                .plain(2, 1, "PUSH 4; SET 0; PUSH 5; SET 1; STATIC 0; PRINT; STATIC 1; PRINT; STATIC 2; RETURN")
-                .plain(2, 0, "PUSH 6; SET 2; PUSH 0; RETURN").initialiser(2, 1).closed();
+                .plain(2, 1, "PUSH 4; SET 0; PUSH 5; SET 1; STATIC 0; PRINT; PUSH 3; SET 0; STATIC 1; PRINT; STATIC 2; "
+                + "RETURN").plain(2, 0, "PUSH 6; SET 2; PUSH 0; RETURN").initialiser(2, 1).closed();
         due.runs(x, 0, 0, 6);
-        due.is("of the class", x.printed(0), 4);
-        due.is("of the one below it", x.printed(1), 5);
-        due.is("only class 2 has an initialiser", x.steps(), 4 + 10);
+        due.is("of the class, not set by the one below it", x.printed(0), 4);
+        due.is("of the one below it, not set by its parent", x.printed(1), 5);
+        due.is("only class 2 has an initialiser", x.steps(), 4 + 12);
     }
 
     private void atMostTenMethods() {
