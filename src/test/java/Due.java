@@ -1,3 +1,5 @@
+import java.util.List;
+
 /** Counts the answers that are not as due, and ends a test with exit code 1 if there was one. */
 final class Due {
     private static final String[] OPS = {
@@ -22,6 +24,14 @@ final class Due {
     void says(String words) {
         sentence = "'" + words + "': ";
         is("stands in the document", document.quote(words), true);
+    }
+
+    /** Each sentence that no test has quoted is an answer that is not as due. */
+    void leavesOut(List<String> sentences) {
+        sentence = "";
+        for (String words : sentences) {
+            is("a test quotes '" + words + "'", false, true);
+        }
     }
 
     void is(String what, long got, long want) {

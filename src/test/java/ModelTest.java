@@ -9,20 +9,25 @@ public final class ModelTest {
     private static final int[] ODD = {
         -1, 0, 1, 2, 3, 4, 5, 6, 9, 10, 15, 16, 19, 20, 21, 22, 23, -2, Integer.MAX_VALUE, Integer.MIN_VALUE};
     private static final int MOST_CALLS = 512;
+    /** Keeps the programs to spoil apart from the others. */
+    private static final long SPOILING = 1L << 40;
 
     private final Due due = new Due();
     private final int[] ends = new int[4];
     private final Map<Integer, Integer> thrown = new TreeMap<>();
     private int closed;
+    private int unsound;
 
     public static void main(String[] args) {
         ModelTest test = new ModelTest();
         int programs = args.length > 0 ? Integer.parseInt(args[0]) : 1500;
         for (int seed = 0; seed < programs; seed++) {
             test.writtenProgram(seed);
+            test.spoiltProgram(seed);
             test.anyCalls(seed);
         }
-        System.out.println(test.closed + " of " + programs + " programs closed; runs answered, threw, spent: "
+        System.out.println(test.closed + " of " + programs + " programs closed, " + test.unsound
+                + " were found unsound when spoilt; runs answered, threw, spent: "
                 + test.ends[0] + ", " + test.ends[1] + ", " + test.ends[2] + "; thrown: " + test.thrown);
         test.due.end();
     }
@@ -49,6 +54,37 @@ public final class ModelTest {
         }
         for (left -= 100; left >= 40; left -= 40) {
             oneRun(seed, random, x, model);
+        }
+    }
+
+    /** A program with one or two instructions or guards that are not as they were written. */
+    private void spoiltProgram(int seed) {
+        Random random = new Random(SPOILING + seed);
+        List<int[]> program = new Writer(random).program();
+        for (int k = random.nextInt(2); k >= 0; k--) {
+            spoil(random, program.get(random.nextInt(program.size())));
+        }
+        ClosedWorld x = new ClosedWorld();
+        Model model = new Model();
+        program.forEach(call -> ask(seed, x, model, call));
+        int answer = ask(seed, x, model, Calls.call(Calls.CLOSE));
+        if (answer != ClosedWorld.NONE) {
+            unsound++;
+        }
+        List<int[]> questions = questionsOfCode();
+        for (int k = 0; k < 100; k++) {
+            ask(seed, x, model, questions.get(random.nextInt(questions.size())));
+        }
+        oneRun(seed, random, x, model);
+    }
+
+    private static void spoil(Random random, int[] call) {
+        if (call[0] == Calls.GUARD) {
+            call[2 + random.nextInt(3)] = random.nextInt(20);
+        } else if (call[0] == Calls.CODE && random.nextBoolean()) {
+            call[2] = random.nextInt(23);
+        } else if (call[0] == Calls.CODE) {
+            call[3] = random.nextInt(6);
         }
     }
 

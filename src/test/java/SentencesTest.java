@@ -13,11 +13,7 @@ public final class SentencesTest {
         new BuildSentences(due).ask();
         new CloseSentences(due).ask();
         new RunSentences(due).ask();
-        Due left = new Due();
-        for (String words : document.unquoted()) {
-            left.is("a test quotes: " + words, false, true);
-        }
+        due.leavesOut(document.unquoted());
         due.end();
-        left.end();
     }
 }
